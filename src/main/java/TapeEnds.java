@@ -476,6 +476,7 @@ public final class TapeEnds {
                 return BAD_VALUE;
             }
             int whole = newData + 2 * mark;
+            // Never so, but a divisor is looked at before it divides.
             if (whole < 1) {
                 return 0;
             }
@@ -485,9 +486,6 @@ public final class TapeEnds {
         int aboutNearest(int what) {
             if (what < 0 || what > 3) {
                 return BAD_VALUE;
-            }
-            if (allBlocks() < 1) {
-                return NONE;
             }
             int least = -1;
             int answer = NONE;

@@ -52,7 +52,7 @@ final class Check {
         }
     }
 
-    /** Asks for the travel, the head, or another count both before and after what should not change it. */
+    /** All that can be asked of a tape, as a text to compare before and after what should not change it. */
     static String state(TapeEnds tape) {
         StringBuilder state = new StringBuilder();
         for (int what = 0; what <= 11; what++) {
