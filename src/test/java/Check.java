@@ -2,8 +2,14 @@
 final class Check {
     private static final int MOST_TOLD = 20;
     private static int wrong = 0;
+    private static String sentence = "";
 
     private Check() {
+    }
+
+    /** The words of the document that the checks from here on hold; what is wrong is told with them. */
+    static void sentence(String words) {
+        sentence = words;
     }
 
     static void due(String call, long got, long want) {
@@ -15,7 +21,7 @@ final class Check {
     static void tell(String fault) {
         wrong++;
         if (wrong <= MOST_TOLD) {
-            System.out.println(fault);
+            System.out.println(sentence.isEmpty() ? fault : "[" + sentence + "] " + fault);
         }
     }
 

@@ -1,5 +1,7 @@
 import java.util.ArrayList;
+import java.util.IdentityHashMap;
 import java.util.List;
+import java.util.Map;
 import java.util.regex.Pattern;
 
 /**
@@ -52,22 +54,19 @@ final class Model {
             copy.out = out;
             copy.travel = travel;
             copy.reads = reads;
+            Map<Block, Block> copies = new IdentityHashMap<>();
+            for (int file = 0; file < 2; file++) {
+                for (Block block : files.get(file)) {
+                    copies.put(block, block.copy());
+                    copy.files.get(file).add(copies.get(block));
+                }
+            }
             for (Foot foot : feet) {
                 Foot newFoot = new Foot();
                 newFoot.file = foot.file;
                 newFoot.mark = foot.mark;
+                newFoot.block = foot.block == null ? null : copies.get(foot.block);
                 copy.feet.add(newFoot);
-            }
-            for (int file = 0; file < 2; file++) {
-                for (Block block : files.get(file)) {
-                    Block newBlock = block.copy();
-                    copy.files.get(file).add(newBlock);
-                    for (int foot = 0; foot < feet.size(); foot++) {
-                        if (feet.get(foot).block == block) {
-                            copy.feet.get(foot).block = newBlock;
-                        }
-                    }
-                }
             }
             return copy;
         }
