@@ -227,23 +227,26 @@ public final class HeadBoundsTest {
 
     private static void readIsCounted() {
         Check.sentence("11: how often it was read; 13: blocks that were read so far, each time");
-        TapeEnds t = new TapeEnds();
-        t.write(0, 1, 0);
-        t.write(0, 1, 0);
-        t.write(1, 1, 0);
-        for (int times = 1; times <= 30; times++) {
-            t.read(0, 1, times % 2);
-            Check.due("how often", t.ofBlock(0, 1, 5), times);
-            Check.due("so far", t.count(9), times);
+        for (int[] read : new int[][] {{0, 0}, {0, 1}, {1, 0}, {1, 1}}) {
+            TapeEnds t = new TapeEnds();
+            for (int i = 0; i < 4; i++) {
+                t.write(i % 2, 1, 0);
+            }
+            for (int times = 1; times <= 99; times++) {
+                t.read(read[0], read[1], times % 2);
+                Check.due("how often", t.ofBlock(read[0], read[1], 5), times);
+                Check.due("so far", t.count(9), times);
+            }
+            t.read(1 - read[0], read[1], 0);
+            Check.due("the other file", t.ofBlock(1 - read[0], read[1], 5), 1);
+            Check.due("never", t.ofBlock(read[0], 1 - read[1], 5), 0);
+            Check.due("how often, as before", t.ofBlock(read[0], read[1], 5), 99);
+            Check.due("so far, both files", t.count(9), 100);
+            t.cut(read[0], 0);
+            Check.due("so far, also those that are gone", t.count(9), 100);
+            t.write(read[0], 1, 0);
+            t.write(read[0], 1, 0);
+            Check.due("a new one", t.ofBlock(read[0], read[1], 5), 0);
         }
-        t.read(1, 0, 0);
-        Check.due("the other file", t.ofBlock(1, 0, 5), 1);
-        Check.due("never", t.ofBlock(0, 0, 5), 0);
-        Check.due("so far, both files", t.count(9), 31);
-        t.cut(0, 0);
-        Check.due("so far, also those that are gone", t.count(9), 31);
-        t.write(0, 1, 0);
-        t.write(0, 1, 0);
-        Check.due("a new one", t.ofBlock(0, 1, 5), 0);
     }
 }
