@@ -193,7 +193,7 @@ public final class AnswerBoundsTest {
     }
 
     private static void countOfMuchTravel() {
-        Check.sentence("13: 8 the travel so far (1000000000 is out of reach: this is about the most of 512 calls)");
+        Check.sentence("13: 8 the travel so far (all of 510 moves from end to end)");
         TapeEnds t = new TapeEnds();
         t.length(2000);
         for (int i = 1; i <= 510; i++) {
