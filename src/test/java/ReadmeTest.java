@@ -39,7 +39,8 @@ public final class ReadmeTest {
             }
             Matcher call = CALL.matcher(line);
             if (call.matches()) {
-                Check.due("README.md, example: " + line, answer(tape, call.group(1), call.group(2)), Integer.parseInt(call.group(3)));
+                int told = Integer.parseInt(call.group(3));
+                Check.due("README.md, example: " + line, answer(tape, call.group(1), call.group(2)), told);
                 calls++;
             } else {
                 Check.tell("README.md, a call without its answer: " + line);
